@@ -8,6 +8,7 @@ public final class MorningsTest {
     manyInOneLane();
     first();
     soonest();
+    soonestOfEachTwo();
     soonestOfOneAndTwo();
     wider();
     plansAreCounted();
@@ -145,6 +146,25 @@ public final class MorningsTest {
     check.due("nobody has gone", x.about(0, 1), 0);
   }
 
+  /** Any two of three who change places in one lane, while the third one rests by itself. */
+  private static void soonestOfEachTwo() {
+    for (int rests = 0; rests < 3; rests++) {
+      CarryAlike x = Check.withNet("12,30");
+      int other = rests == 0 ? 1 : 0;
+      for (int i = 0; i < 3; i++) {
+        x.walker(0, i == rests ? 0 : i == other ? 1 : 2, i == rests ? 0 : i == other ? 2 : 1, i);
+      }
+      check.due("one waits", x.soonest(0), 2);
+      for (int i = 0; i < 3; i++) {
+        check.due("first they meet in 1, without " + rests, x.soonest(i + 1), i == rests ? 0 : 1);
+      }
+      check.due("the lane between them", x.wider(0), 0);
+      x.load(3 - rests - other, x.about(other, 3));
+      check.due("alike they pass", x.soonest(0), 1);
+      check.due("and change places", x.soonest(other + 1), 2);
+    }
+  }
+
   private static void soonestOfOneAndTwo() {
     CarryAlike x = Check.withNet("01,12,23,34,45,56,67");
     x.walker(0, 0, 7, 1);
@@ -196,6 +216,19 @@ public final class MorningsTest {
     check.due("two minutes", never.soonest(0), 2);
     never.load(2, 3);
     check.due("by the only lane", never.wider(0), 0);
+    // 1 meets 0 in lane 2 or 2 in lane 1; either of them would do.
+    CarryAlike alike = Check.withNet("01,12,13,34,42");
+    alike.walker(0, 3, 0, 1);
+    alike.walker(0, 1, 4, 4);
+    alike.walker(0, 2, 0, 7);
+    check.due("without", alike.soonest(0), 3);
+    check.due("of like ones the least", alike.wider(0), 1);
+    check.due("soonest by it", alike.wider(1), 2);
+    CarryAlike wide = Check.withNet("01,12=,13,34,42");
+    wide.walker(0, 3, 0, 1);
+    wide.walker(0, 1, 4, 4);
+    wide.walker(0, 2, 0, 7);
+    check.due("with lane 1 wide", wide.soonest(0), 2);
     CarryAlike none = Check.withNet("01,23");
     none.walker(0, 0, 2, 1);
     check.due("by none", none.wider(0), NONE);
@@ -206,10 +239,10 @@ public final class MorningsTest {
     check.due("by the middle one", ends.wider(0), 1);
     check.due("soonest by it", ends.wider(1), 3);
     check.due("soonest without", ends.soonest(0), 4);
-    CarryAlike alike = Check.withNet("10,12,23,30");
-    alike.walker(0, 0, 2, 1);
-    alike.walker(0, 2, 0, 2);
-    check.due("a square needs none", alike.wider(0), NONE);
+    CarryAlike square = Check.withNet("10,12,23,30");
+    square.walker(0, 0, 2, 1);
+    square.walker(0, 2, 0, 2);
+    check.due("a square needs none", square.wider(0), NONE);
   }
 
   private static void plansAreCounted() {
@@ -287,6 +320,8 @@ public final class MorningsTest {
     Check.walker(late, 0, 0, 1, 3, "00000000000000000001");
     Check.walker(late, 0, 1, 0, 17, "11111111111111111110");
     check.due("in the twentieth minute", late.enough(0), 17);
+    late.load(1, 20);
+    check.due("as much as can be", late.enough(0), 20);
   }
 
   private static void fits() {
@@ -312,6 +347,15 @@ public final class MorningsTest {
     Check.walker(x, 2, 1, 0, 5, "10");
     check.due("three of four", x.fits(11), 100);
     check.refused("four of four", x, () -> x.fits(15), CarryAlike.OUTSIDE);
+    CarryAlike three = Check.withNet("01");
+    Check.walker(three, 0, 0, 1, 3, "1");
+    Check.walker(three, 0, 0, 1, 4, "1");
+    Check.walker(three, 0, 1, 0, 5, "0");
+    check.due("all three alike", three.fits(7), 10);
+    check.due("two of them: never both as the third one", three.fits(3), 1);
+    check.due("sure of the first", three.sure(0, 3), 5);
+    check.due("sure of the second", three.sure(1, 3), 5);
+    check.due("one is not enough", three.fits(4), 0);
     CarryAlike law = Check.withNet("01;dw");
     Check.walker(law, 0, 0, 1, 3, "1");
     Check.walker(law, 2, 1, 0, 4, "0");

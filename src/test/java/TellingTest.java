@@ -47,6 +47,9 @@ public final class TellingTest {
     check.due("another way", x.about(0, 5), 1);
     x.restore();
     check.due("the old way again", x.about(0, 5), 3);
+    Check.way(x, 0, "1000");
+    x.restore();
+    check.due("its next corner", x.about(0, 6), 3);
     check.due("who comes then has no way", x.about(Check.walker(x, 0, 0, 0, 1, ""), 5), 0);
     x.minutes(3);
     check.due("and 0 goes to the end", x.about(0, 1), 1);

@@ -111,6 +111,9 @@ public final class TextsTest {
     fault(0, "01,02,03,04,05,06,07,1", 22);
     fault(0, "01,02,03,04,05,06,07,10", 22);
     fault(0, "01,02,03,04,05,06,0", 19);
+    fault(0, "30,31,32,34,53,63,37,3", 21);
+    fault(0, "30,31,32,34,53,63,37,4", 22);
+    fault(0, "73=,74,75,76,17,27,07,7", 22);
     CarryAlike x = new CarryAlike();
     check.refused("fault(2)", x, () -> x.fault(2), CarryAlike.OUTSIDE);
     check.refused("fault(-1)", x, () -> x.fault(-1), CarryAlike.OUTSIDE);
@@ -174,6 +177,10 @@ public final class TextsTest {
     check.due("minutes behind another net", x.count(4), 0);
     check.due("law behind another net", x.count(8) + x.count(9), 0);
     check.due("lane(1, 0) behind another net", x.lane(1, 0), CarryAlike.UNKNOWN);
+    x.walker(0, 0, 0, 0);
+    Check.write(x, "2");
+    check.due("the old lane from 0 to 2 is gone", x.way(0), CarryAlike.STATE);
+    x.blank();
     check.due("restore() behind another net", x.restore(), CarryAlike.STATE);
     check.due("heap(2, 0) behind another net", x.heap(2, 0), 0);
   }

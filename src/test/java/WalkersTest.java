@@ -252,6 +252,10 @@ public final class WalkersTest {
     check.refused("more than 99", x, () -> x.take(0, -20), CarryAlike.STATE);
     check.due("just 99", x.take(0, -19), 1);
     check.due("the heap", x.heap(1, 99), 99);
+    x.load(0, 0);
+    check.due("twenty at once", x.take(0, 20), 20);
+    check.due("twenty back", x.take(0, -20), 0);
+    x.load(0, 1);
     check.refused("take(4, 0)", x, () -> x.take(4, 0), CarryAlike.UNKNOWN);
     check.refused("take(-1, 0)", x, () -> x.take(-1, 0), CarryAlike.UNKNOWN);
     check.refused("take(0, 21)", x, () -> x.take(0, 21), CarryAlike.OUTSIDE);
