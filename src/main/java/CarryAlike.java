@@ -662,7 +662,7 @@ public final class CarryAlike {
 
         /** Whether only those who MAY PASS can pass between the two; widened is a LANE taken as WIDE, or EVERY_LANE. */
         boolean isNarrow(int one, int other, int widened) {
-            if (!isCorner(one) || !isCorner(other) || widened == EVERY_LANE) {
+            if (one < 0 || one >= CORNERS || other < 0 || other >= CORNERS || widened == EVERY_LANE) {
                 return false;
             }
             int lane = between[CORNERS * one + other];
@@ -918,9 +918,11 @@ public final class CarryAlike {
         /** Finds who goes back: how many two of them. */
         private int meet() {
             int times = 0;
-            Arrays.fill(back, false);
             lesser = NONE;
             greater = NONE;
+            for (int i = 0; i < MOST_WALKERS; i++) {
+                back[i] = false;
+            }
             for (int i = 0; i < MOST_WALKERS; i++) {
                 for (int j = i + 1; j < MOST_WALKERS; j++) {
                     boolean against = want[i] == corner[j] && want[j] == corner[i];
@@ -1138,7 +1140,7 @@ public final class CarryAlike {
             pass12 = town.mayPass(net, 1, 2);
         }
 
-        /** SOONEST, if a LANE was WIDE, and it is at most so much; NONE otherwise. It looks back from the GOALS: who can go can come. */
+        /** SOONEST, if a LANE was WIDE; NONE, if it is above most. It looks back from the GOALS: who can go can come. */
         int fewest(int wideLane, int most) {
             widened = wideLane;
             Arrays.fill(far, NONE);

@@ -162,7 +162,21 @@ public final class MorningsTest {
       x.load(3 - rests - other, x.about(other, 3));
       check.due("alike they pass", x.soonest(0), 1);
       check.due("and change places", x.soonest(other + 1), 2);
+      firstStepOfEachTwo(rests, other, 3 - rests - other);
+      firstStepOfEachTwo(rests, 3 - rests - other, other);
     }
+  }
+
+  /** Were it not for the one who comes, the other one would be in the lesser corner 1 at once. */
+  private static void firstStepOfEachTwo(int rests, int comes, int other) {
+    CarryAlike x = Check.withNet("12,23,40");
+    for (int i = 0; i < 3; i++) {
+      x.walker(0, i == rests ? 0 : i == comes ? 1 : 2, i == rests ? 0 : i == comes ? 3 : 1, i);
+    }
+    check.due("two minutes", x.soonest(0), 2);
+    check.due(rests + " stays", x.soonest(rests + 1), 0);
+    check.due(comes + " comes", x.soonest(comes + 1), 2);
+    check.due(other + " waits for it", x.soonest(other + 1), 2);
   }
 
   private static void soonestOfOneAndTwo() {
@@ -224,6 +238,14 @@ public final class MorningsTest {
     check.due("without", alike.soonest(0), 3);
     check.due("of like ones the least", alike.wider(0), 1);
     check.due("soonest by it", alike.wider(1), 2);
+    // 0 meets 1 in lane 1 and 2 in lane 2: either of them alone does not help, both would.
+    CarryAlike both = Check.withNet("01,12,23,34");
+    both.walker(0, 1, 3, 1);
+    both.walker(0, 2, 0, 4);
+    both.walker(0, 4, 2, 7);
+    check.due("without", both.soonest(0), 3);
+    check.due("no one lane is enough", both.wider(0), NONE);
+    check.due("soonest by none", both.wider(1), NONE);
     CarryAlike wide = Check.withNet("01,12=,13,34,42");
     wide.walker(0, 3, 0, 1);
     wide.walker(0, 1, 4, 4);
