@@ -546,16 +546,12 @@ public final class CarryAlike {
             }
         }
 
-        /** A corner that is joined to all others can begin no LANE any more. */
+        /** Any corner can begin a LANE, joined to all others too: of a LANE told twice it is the second digit that cannot be. */
         private boolean acceptsFirst(char letter) {
             if (!Page.isDigit(letter) || lanes >= MOST_LANES) {
                 return false;
             }
-            int corner = letter - '0';
-            if (Long.bitCount(joined >>> 8 * corner & 255) == CORNERS - 1) {
-                return false;
-            }
-            from[lanes] = corner;
+            from[lanes] = letter - '0';
             state = AT_SECOND;
             return true;
         }

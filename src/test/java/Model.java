@@ -93,9 +93,9 @@ final class Model {
     return true;
   }
 
-  /** Two letters more are enough for any beginning of a NET to become one. */
+  /** Two letters more are enough for any beginning of a NET to become one, but for a corner that is joined to all others. */
   private static boolean beginsANet(String text) {
-    if (isNet(text)) {
+    if (isNet(text) || endsInFirstDigit(text)) {
       return true;
     }
     for (char a : SIGNS.toCharArray()) {
@@ -109,6 +109,15 @@ final class Model {
       }
     }
     return false;
+  }
+
+  /** The first digit of a LANE may be any corner. */
+  private static boolean endsInFirstDigit(String text) {
+    if (!text.matches(".*,[0-7]")) {
+      return false;
+    }
+    String before = text.substring(0, text.length() - 2);
+    return isNet(before) && before.indexOf(';') < 0 && before.split(",").length < 12;
   }
 
   int fault(int sort) {

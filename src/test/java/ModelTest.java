@@ -46,6 +46,9 @@ public final class ModelTest {
 
   /** Nets of few corners are those in which walkers meet. */
   private static String netText() {
+    if (random.nextInt(10) == 0) {
+      return starText();
+    }
     int corners = one(2, 3, 4, 4, 5, 6, 7, 8, 8);
     List<String> free = new ArrayList<>();
     for (int a = 0; a < corners; a++) {
@@ -69,6 +72,25 @@ public final class ModelTest {
       text.setCharAt(random.nextInt(text.length()), "01234567,=;dw8 ~".charAt(random.nextInt(16)));
     }
     return text.toString();
+  }
+
+  /** One corner joined to all others, and perhaps a LANE or two more, which may be told twice. */
+  private static String starText() {
+    int middle = random.nextInt(8);
+    StringBuilder text = new StringBuilder();
+    for (int i = 1; i < 8; i++) {
+      int other = (middle + 3 * i) % 8;
+      text.append(random.nextBoolean() ? "" + middle + other : "" + other + middle);
+      text.append(random.nextInt(9) == 0 ? "=," : ",");
+    }
+    for (int i = random.nextInt(3); i > 0; i--) {
+      text.append(random.nextBoolean() ? middle : random.nextInt(8)).append(random.nextInt(8)).append(',');
+    }
+    if (random.nextInt(4) == 0) {
+      return text.append(middle).toString();
+    }
+    text.setLength(text.length() - 1);
+    return text.append(random.nextBoolean() ? "" : ";dw").toString();
   }
 
   private static String wayText(int walker) {

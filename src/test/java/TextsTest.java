@@ -106,17 +106,37 @@ public final class TextsTest {
     fault(0, "01,12,23,34,45,56,67,70,02,13,24,35,", 35);
     fault(0, "01,12,23,34,45,56,67,70,02,13,24,35=,46", 36);
     fault(0, "01=,12=,23=,34=,45=,56=,67=,70=,02=,13=,24=,35=;dw", 50);
-    // Corner 0 is joined to all others: no NET has another 0 at the first place of a LANE.
-    fault(0, "01,02,03,04,05,06,07,0", 21);
-    fault(0, "01,02,03,04,05,06,07,1", 22);
-    fault(0, "01,02,03,04,05,06,07,10", 22);
-    fault(0, "01,02,03,04,05,06,0", 19);
-    fault(0, "30,31,32,34,53,63,37,3", 21);
-    fault(0, "30,31,32,34,53,63,37,4", 22);
-    fault(0, "73=,74,75,76,17,27,07,7", 22);
+    faultOfJoinedToAll();
     CarryAlike x = new CarryAlike();
     check.refused("fault(2)", x, () -> x.fault(2), CarryAlike.OUTSIDE);
     check.refused("fault(-1)", x, () -> x.fault(-1), CarryAlike.OUTSIDE);
+  }
+
+  /** A corner that is joined to all others may begin a LANE: then no second digit can be. */
+  private static void faultOfJoinedToAll() {
+    fault(0, "01,02,03,04,05,06,07,0", 22);
+    for (char second = '0'; second <= '9'; second++) {
+      fault(0, "01,02,03,04,05,06,07,0" + second, 22);
+      fault(0, "73=,74,75,76,17,27,07,7" + second, 23);
+    }
+    fault(0, "01,02,03,04,05,06,07,0=", 22);
+    fault(0, "01,02,03,04,05,06,07,0,12", 22);
+    fault(0, "01,02,03,04,05,06,07,8", 21);
+    fault(0, "01,02,03,04,05,06,07,1", 22);
+    fault(0, "01,02,03,04,05,06,07,10", 22);
+    fault(0, "01,02,03,04,05,06,07,12", 23);
+    fault(0, "30,31,32,34,53,63,37,3", 22);
+    fault(0, "30,31,32,34,53,63,37,35", 22);
+    fault(0, "30,31,32,34,53,63,37,43", 22);
+    fault(0, "01,02,03,04,05,06,07,12,13,14,15,0", 34);
+    fault(0, "01,02,03,04,05,06,07,12,13,14,15,01", 34);
+    fault(0, "01,02,03,04,05,06,07,12,13,14,15,16,0", 35);
+    CarryAlike x = new CarryAlike();
+    for (String none : new String[] {"01,02,03,04,05,06,07,0", "01,02,03,04,05,06,07,01"}) {
+      x.blank();
+      Check.write(x, none);
+      check.refused("net() of " + none, x, x::net, CarryAlike.STATE);
+    }
   }
 
   private static void faultOfWays() {
