@@ -1143,7 +1143,7 @@ public final class CarryAlike {
             far[goals] = 0;
             line[0] = goals;
             lineEnd = 1;
-            for (int head = 0; head < lineEnd && far[start] == NONE && far[line[head]] < most; head++) {
+            for (int head = 0; head < PLACES && head < lineEnd && far[start] == NONE && far[line[head]] < most; head++) {
                 spread(line[head]);
             }
             return far[start];

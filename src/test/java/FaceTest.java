@@ -16,13 +16,13 @@ public final class FaceTest {
   public static void main(String[] args) throws Exception {
     members();
     constants();
-    oddArguments(new CarryAlike());
-    for (int walkers = 0; walkers <= 5; walkers++) {
-      CarryAlike x = Check.withNet("01,12,20=;dw");
-      for (int i = 0; i < walkers; i++) {
-        Check.walker(x, i % 4, i % 3, 2 - i % 3, 4 * i, "012012");
+    for (Method method : CarryAlike.class.getMethods()) {
+      if (method.getDeclaringClass() == CarryAlike.class) {
+        oddArguments(method, new CarryAlike());
+        for (int walkers = 0; walkers <= 5; walkers++) {
+          oddArguments(method, withWalkers(walkers));
+        }
       }
-      oddArguments(x);
     }
     check.end();
   }
@@ -71,22 +71,29 @@ public final class FaceTest {
     }
   }
 
-  /** Each call with each odd argument, in turn with sound ones for the rest, to see that nothing is thrown. */
-  private static void oddArguments(CarryAlike x) throws Exception {
-    for (Method method : CarryAlike.class.getMethods()) {
-      if (method.getDeclaringClass() != CarryAlike.class) {
-        continue;
-      }
-      Class<?>[] types = method.getParameterTypes();
-      for (int place = 0; place < types.length; place++) {
-        for (int odd : ODD) {
-          Object[] values = new Object[types.length];
-          for (int i = 0; i < types.length; i++) {
-            values[i] = types[i] == long.class ? (Object) Long.valueOf(i == place ? odd : 48) : (Object) Integer.valueOf(i == place ? odd : 1);
-          }
-          long answer = ((Number) method.invoke(x, values)).longValue();
-          check.due(method.getName() + " answers no less than FULL", answer >= CarryAlike.FULL ? 1 : 0, 1);
+  private static CarryAlike withWalkers(int walkers) {
+    CarryAlike x = Check.withNet("01,12,20=;dw");
+    for (int i = 0; i < walkers; i++) {
+      Check.walker(x, i % 4, i % 3, 2 - i % 3, 4 * i, "012012");
+    }
+    return x;
+  }
+
+  /** Each odd argument, in turn with sound ones for the rest, to see that nothing is thrown. */
+  private static void oddArguments(Method method, CarryAlike x) throws Exception {
+    Class<?>[] types = method.getParameterTypes();
+    if (types.length == 0) {
+      check.due(method.getName() + " answers", method.invoke(x) instanceof Number ? 1 : 0, 1);
+    }
+    for (int place = 0; place < types.length; place++) {
+      for (int odd : ODD) {
+        Object[] values = new Object[types.length];
+        for (int i = 0; i < types.length; i++) {
+          int value = i == place ? odd : types[i] == long.class ? 48 : 1;
+          values[i] = types[i] == long.class ? (Object) Long.valueOf(value) : (Object) Integer.valueOf(value);
         }
+        long answer = ((Number) method.invoke(x, values)).longValue();
+        check.due(method.getName() + " answers no less than FULL", answer >= CarryAlike.FULL ? 1 : 0, 1);
       }
     }
   }
