@@ -43,9 +43,11 @@ public final class EdgesOfMorningsTest {
     enoughOfNoneAndTwenty();
     enoughOfABride();
     enoughOnTheWholeWay();
+    enoughAmongTwoWhoGoBack();
     fitsOutside();
     fitsOfAnEmptySetAndAFullOne();
     fitsOfNoneToNine();
+    fitsAmongTwoWhoGoBack();
     sureRefusals();
     sureOfNoneAndNine();
     sureNone();
@@ -55,6 +57,7 @@ public final class EdgesOfMorningsTest {
     crowdOfTheLeastAndTheGreatestSeed();
     crowdOfMostMinutes();
     crowdAtTheirGoals();
+    crowdByNumberFromWhereTheyAre();
     check.end();
   }
 
@@ -485,6 +488,32 @@ public final class EdgesOfMorningsTest {
     check.due("all ways at their end", x.enough(0) + x.enough(1), 0);
   }
 
+  /** Whoever the three are: behind two who go back for ever it has to pass the one whom it meets, and no other one. */
+  private static void enoughAmongTwoWhoGoBack() {
+    for (int code = 0; code < 125; code++) {
+      int first = code / 25;
+      int second = code / 5 % 5;
+      int third = code % 5;
+      if (first == second || first == third || second == third) {
+        continue;
+      }
+      CarryAlike x = Check.withNet("01,12");
+      for (int i = 0; i < 5; i++) {
+        int corner = i == first ? 0 : i == second ? 1 : i == third ? 2 : 7;
+        Check.walker(x, 0, corner, 0, 3 + i, i == first ? "1" : i == second ? "0" : i == third ? "22210" : "77");
+      }
+      String who = " of " + first + ", " + second + ", " + third;
+      check.due("enough of the third one" + who, x.enough(third), 3 + first);
+      check.due("enough of the second one" + who, x.enough(second), 3 + first);
+      check.due("they go back till then" + who, x.minutes(3), 3);
+      check.due("enough of the third one just ahead of them" + who, x.enough(third), 3 + first);
+      for (int other = 0; other < 5; other++) {
+        boolean meetsNobody = other != first && other != second && other != third;
+        check.due("enough of " + other + ", who may meet nobody," + who, x.enough(other) == 0 ? 1 : 0, meetsNobody ? 1 : 0);
+      }
+    }
+  }
+
   // ---- promise 20
 
   private static void fitsOutside() {
@@ -523,6 +552,26 @@ public final class EdgesOfMorningsTest {
       check.due("the LOAD stays", x.about(1, 3), load);
       check.due("fits(1) to pass a bride with " + load, meeting("", 0, BRIDE, load).fits(1), load <= 2 ? 1 : 0);
       check.due("fits(1) by w to pass " + load, meeting(";w", 0, 0, load).fits(1), load == 0 ? 10 : load <= 9 ? 2 : 1);
+    }
+  }
+
+  /** Nobody ever goes back: each two of five who do, and each set of three at most. */
+  private static void fitsAmongTwoWhoGoBack() {
+    int[] tens = {1, 10, 100, 1000};
+    for (int one = 0; one < 5; one++) {
+      for (int other = one + 1; other < 5; other++) {
+        CarryAlike x = Check.withNet("01");
+        for (int i = 0; i < 5; i++) {
+          Check.walker(x, 0, i == one ? 0 : i == other ? 1 : 7, 0, 3 + i, i == one ? "001" : i == other ? "110" : "");
+        }
+        for (int set = 0; set < 32; set++) {
+          int size = Integer.bitCount(set);
+          int ofThem = (set >> one & 1) + (set >> other & 1);
+          if (size <= 3) {
+            check.due("fits(" + set + ") of " + one + " and " + other + " who meet", x.fits(set), ofThem == 0 ? 0 : tens[size - 1]);
+          }
+        }
+      }
     }
   }
 
@@ -679,5 +728,55 @@ public final class EdgesOfMorningsTest {
       times += narrow.crowd(60, seed, 0);
     }
     check.due("others do", times > 50 ? 1 : 0, 1);
+  }
+
+  /** All five draw in their order, then they go; WAYS do not matter, LOADS do; two who go back stay. */
+  private static void crowdByNumberFromWhereTheyAre() {
+    CarryAlike x = Check.withNet("01,12,20=");
+    int[] corners = {0, 1, 2, 1, 0};
+    int[] loads = {1, 2, 1, 2, 3};
+    for (int i = 0; i < 5; i++) {
+      Check.walker(x, 0, corners[i], i % 3, loads[i], "" + corners[i]);
+    }
+    for (int seed = 0; seed < 100; seed++) {
+      int[] at = corners.clone();
+      BigInteger next = BigInteger.valueOf(seed);
+      int times = 0;
+      for (int minute = 0; minute < 20; minute++) {
+        int[] want = new int[5];
+        for (int i = 0; i < 5; i++) {
+          next = after(next);
+          int draw = next.intValueExact() / 65536 % 3;
+          int[] choices = {at[i], at[i] == 0 ? 1 : 0, at[i] == 2 ? 1 : 2};
+          want[i] = choices[draw];
+        }
+        times += goThreeCorners(at, want, loads);
+      }
+      int there = 0;
+      for (int i = 0; i < 5; i++) {
+        there |= at[i] == i % 3 ? 1 << i : 0;
+      }
+      check.due("crowd(20, " + seed + ", 0)", x.crowd(20, seed, 0), times);
+      check.due("crowd(20, " + seed + ", 1)", x.crowd(20, seed, 1), there);
+      check.due("crowd(20, " + seed + ", 2)", x.crowd(20, seed, 2), next.intValueExact());
+    }
+  }
+
+  /** A minute among three corners, of which 2 and 0 are joined by a wide lane: how often two go back. */
+  private static int goThreeCorners(int[] at, int[] want, int[] loads) {
+    int times = 0;
+    int[] then = want.clone();
+    for (int i = 0; i < 5; i++) {
+      for (int j = i + 1; j < 5; j++) {
+        boolean against = at[i] != at[j] && want[i] == at[j] && want[j] == at[i] && at[i] + at[j] != 2;
+        if (against && loads[i] != loads[j]) {
+          times++;
+          then[i] = at[i];
+          then[j] = at[j];
+        }
+      }
+    }
+    System.arraycopy(then, 0, at, 0, 5);
+    return times;
   }
 }

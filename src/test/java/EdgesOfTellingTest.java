@@ -18,6 +18,7 @@ public final class EdgesOfTellingTest {
     imageWithoutANet();
     imageOfNobody();
     imageTheLatestOne();
+    imageTellsMinutesWhoeverIsThere();
     restoreWithoutAnImage();
     restoreBehindANet();
     restoreBehindATextThatIsNone();
@@ -63,6 +64,22 @@ public final class EdgesOfTellingTest {
     x.minutes(1);
     check.due("image()", x.image(), 6);
     check.due("restore() of the new one", x.restore(), 6);
+  }
+
+  private static void imageTellsMinutesWhoeverIsThere() {
+    for (int walkers = 0; walkers <= 5; walkers++) {
+      CarryAlike x = Check.withNet("01");
+      for (int i = 0; i < walkers; i++) {
+        Check.walker(x, i % 4, i % 2, 0, i, "0101".substring(i % 2));
+      }
+      for (int minutes = 0; minutes <= 120; minutes += 60) {
+        check.due("image() of " + walkers + " behind " + minutes, x.image(), minutes);
+        check.due("count(4) then", x.count(4), minutes);
+        x.minutes(60);
+        check.due("restore()", x.restore(), minutes);
+        x.minutes(60);
+      }
+    }
   }
 
   // ---- promise 24
